@@ -93,7 +93,9 @@ public final class DoorTears {
         text.length = 0;
         past.clear();
         sights.length = 0;
-        Arrays.fill(isKept, false);
+        for (int k = 0; k < KEEPS; k++) {
+            isKept[k] = false;
+        }
         for (int c = 0; c < CUPS; c++) {
             cups[c].discard();
         }
@@ -1006,10 +1008,7 @@ public final class DoorTears {
                     above += ways;
                 }
             }
-            // below is a power of two: halving alone brings lowest terms, but 0 stays even for ever
-            if (above == 0) {
-                below = 1;
-            }
+            // below is a power of two, so halving alone brings lowest terms
             while (below > 1 && above % 2 == 0) {
                 above /= 2;
                 below /= 2;
