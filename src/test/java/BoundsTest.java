@@ -1,3 +1,5 @@
+import java.util.Arrays;
+
 /** Sentence by sentence of the document: at each bound, one below, one above; empty, full, refused. */
 public final class BoundsTest {
     /** By promise: the call, and every way in which the document lets it be refused, or have no answer. */
@@ -21,7 +23,10 @@ public final class BoundsTest {
         new CupBounds(runs).all();
         for (String named : NAMED) {
             String[] words = named.split(" ");
-            runs.mustHaveAnswered(words[0], java.util.Arrays.copyOfRange(words, 1, words.length));
+            runs.mustHaveAnswered(words[0], Arrays.copyOfRange(words, 1, words.length));
+        }
+        for (int promise = 1; promise <= 35; promise++) {
+            runs.mustHaveRunsFor(promise);
         }
         System.out.println(runs.wrong() == 0 ? runs.made() + " answers are as due" : runs.wrong() + " are not as due");
         if (runs.wrong() != 0) {

@@ -559,7 +559,7 @@ final class CupBounds {
     }
 
     private void apart() {
-        runs.run("4: cups 0 .. 2, each by itself, and no deeds", """
+        runs.run("Cups: 0 .. 2, each by itself, and no deeds", """
             tell open 0;wife 0 6
             cup(0, 1) = 1
             cup(1, 2) = 2

@@ -157,7 +157,8 @@ final class DeedBounds {
 
     private void peace() {
         runs.run("12: with how many others the one has fallen out yet", """
-            tell open 1;wife 0 0;wife 0 0;wife 0 0;wife 0 0;wife 0 0;wife 0 0;fell 0 1;fell 0 2;fell 0 3;fell 0 4;fell 0 5;fell 4 5
+            tell open 1;wife 0 0;wife 0 0;wife 0 0;wife 0 0;wife 0 0;wife 0 0
+            tell fell 0 1;fell 0 2;fell 0 3;fell 0 4;fell 0 5;fell 4 5
             peace(0, 3) = 4
             person(0, 3) = 54
             person(3, 3) = 0
@@ -235,8 +236,9 @@ final class DeedBounds {
     }
 
     private void undoneAtMost() {
-        List<String> deeds = List.of("door(0) = 0", "grieve(0, 1) = 1", "evening(1) = 1", "door(1) = 1", "peace(0, 1) = 0",
-                "grieve(1, 2) = 6", "door(0) = 1", "evening(3) = 4", "grieve(0, 9) = 11", "door(2) = 0");
+        List<String> deeds = List.of("door(0) = 0", "grieve(0, 1) = 1", "evening(1) = 1", "door(1) = 1",
+                "peace(0, 1) = 0", "grieve(1, 2) = 6", "door(0) = 1", "evening(3) = 4",
+                "grieve(0, 9) = 11", "door(2) = 0");
         String text = "tell open 1;shut 1;open 0;wife 0 0;man 1 2;fell 0 1";
         for (int n = 1; n <= deeds.size(); n++) {
             List<String> lines = new ArrayList<>(List.of(text));

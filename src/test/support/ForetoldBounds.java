@@ -178,8 +178,8 @@ final class ForetoldBounds {
             """);
         for (int people = 1; people <= 6; people++) {
             int bits = (1 << people + 1) - 2;
-            runs.play("20: as many as it takes", List.of("tell open 4" + ";shut 1".repeat(6) + ";wife 0 6".repeat(people),
-                    "doors(1) = " + bits));
+            runs.play("20: as many as it takes", List.of(
+                    "tell open 4" + ";shut 1".repeat(6) + ";wife 0 6".repeat(people), "doors(1) = " + bits));
         }
         runs.run("20: all but the last, all of six", """
             tell shut 0;shut 1;shut 1;shut 1;shut 1;shut 1;shut 0;wife 0 6;wife 0 6;wife 0 6;wife 0 6;wife 0 6
@@ -270,7 +270,8 @@ final class ForetoldBounds {
             funeral(5) = 5
             """);
         runs.run("21: six, the last first", """
-            tell open 0;open 1;open 1;open 1;open 1;open 1;open 1;wife 0 0;wife 0 0;wife 0 0;wife 0 0;wife 0 0;man 0 0
+            tell open 0;open 1;open 1;open 1;open 1;open 1;open 1
+            tell wife 0 0;wife 0 0;wife 0 0;wife 0 0;wife 0 0;man 0 0
             funeral(NONE) = 0
             funeral(0) = 5
             funeral(1) = 0
@@ -313,8 +314,8 @@ final class ForetoldBounds {
     private void hearthBest() {
         for (int n = 1; n <= 20; n++) {
             // hard stays at home in the only kitchen, and is in the field from evening 20 - g on, every other one
-            runs.play("22: each who goes, each evening", List.of("tell open 0;hard 0 40;hard 0 40", "hearth(" + n + ", 0) = 0",
-                    "hearth(" + n + ", 1) = " + 2 * n));
+            runs.play("22: each who goes, each evening", List.of("tell open 0;hard 0 40;hard 0 40",
+                    "hearth(" + n + ", 0) = 0", "hearth(" + n + ", 1) = " + 2 * n));
             int first = 21 - n;
             runs.play("22: the n-th evening counts, the next does not", List.of("tell open 0;hard 0 " + first,
                     "hearth(" + n + ", 1) = 1", n > 1 ? "hearth(" + (n - 1) + ", 1) = 0" : "hearth(2, 1) = 1"));
@@ -344,7 +345,8 @@ final class ForetoldBounds {
             hearth(20, 1) = 0
             """);
         runs.run("22: the last of seven", """
-            tell shut 0;shut 0;shut 0;shut 0;shut 0;shut 0;shut 0;man 5 40;wife 0 40;wife 1 40;wife 2 40;man 4 0;fell 0 4
+            tell shut 0;shut 0;shut 0;shut 0;shut 0;shut 0;shut 0
+            tell man 5 40;wife 0 40;wife 1 40;wife 2 40;man 4 0;fell 0 4
             hearth(1, 0) = 6
             hearth(1, 1) = 0
             """);
@@ -394,7 +396,7 @@ final class ForetoldBounds {
                 1, 1, 4095, 4096, 63, 64, 4096 - 729, 4096, 0, 1);
         // six wives, one to each of six kitchens: all six must stay open
         odds("six must stay open",
-                "open 0;open 1;open 1;open 1;open 1;open 1;open 1;wife 0 6;wife 0 6;wife 0 6;wife 0 6;wife 0 6;wife 0 6",
+                "open 0" + ";open 1".repeat(6) + ";wife 0 6".repeat(6),
                 1, 1, 729, 4096, 1, 64, 1, 4096, 0, 1);
         // one of the two has none if all others are shut: none open, 0 alone, 1 alone
         odds("four to the seventh", "open 4;open 4;open 4;open 4;open 4;open 4;open 4;wife 0 6;wife 1 6",
@@ -402,7 +404,7 @@ final class ForetoldBounds {
     }
 
     private void fromNowOn() {
-        runs.run("3: foretold from now on, behind what was done", """
+        runs.run("Foretold: from now on, behind what was done", """
             tell open 1;shut 1;wife 0 4;man 0 12
             where(0, 0) = NONE
             where(0, 1) = 7

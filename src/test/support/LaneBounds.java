@@ -177,7 +177,8 @@ final class LaneBounds {
             person(-1, -1) = UNKNOWN
             """);
         runs.run("7: fallen out with all others", """
-            tell open 3;wife 0 0;wife 0 0;wife 0 0;wife 0 0;wife 0 0;wife 0 0;fell 3 0;fell 1 3;fell 3 2;fell 4 3;fell 3 5
+            tell open 3;wife 0 0;wife 0 0;wife 0 0;wife 0 0;wife 0 0;wife 0 0
+            tell fell 3 0;fell 1 3;fell 3 2;fell 4 3;fell 3 5
             person(3, 3) = 55
             person(5, 3) = 8
             """);
@@ -209,7 +210,8 @@ final class LaneBounds {
             count(10) = 0
             """);
         runs.run("35: each of them, most that can be", """
-            tell open 4;open 4;open 4;open 4;open 4;open 4;open 4;girl 0 40;girl 1 40;girl 2 40;girl 3 40;girl 4 40;girl 5 40
+            tell open 4;open 4;open 4;open 4;open 4;open 4;open 4
+            tell girl 0 40;girl 1 40;girl 2 40;girl 3 40;girl 4 40;girl 5 40
             count(0) = 7
             count(1) = 6
             count(2) = 0
@@ -260,7 +262,7 @@ final class LaneBounds {
         for (int kind = 0; kind < 5; kind++) {
             String word = ";" + WORDS[kind] + " 0 ";
             int b = BEARS[kind];
-            runs.play("2: it comes on to each whose grief is as much as by kind one bears, or more", List.of(
+            runs.play("An evening: it comes on to each whose grief is as much as by kind one bears, or more", List.of(
                     "tell open 4;open 4" + word + (b - 1) + word + b + word + (b + 1) + word + "40" + word + "0",
                     "count(4) = 14", "person(0, 4) = 0", "person(1, 4) = 1", "person(2, 4) = 1", "person(3, 4) = 1",
                     "person(4, 4) = 0", "where(0, 0) = NONE", "where(1, 0) = 1", "where(2, 0) = 1", "where(3, 0) = 1",
@@ -272,7 +274,7 @@ final class LaneBounds {
         for (int kind = 0; kind < 5; kind++) {
             for (int grief = BEARS[kind]; grief <= 40; grief++) {
                 int left = Math.max(0, grief - EASES[kind]);
-                runs.play("2: grief is less by how by kind it eases, 0 at least", List.of(
+                runs.play("An evening: grief is less by how by kind it eases, 0 at least", List.of(
                         "tell open 0;open 1;" + WORDS[kind] + " 0 " + grief, "behind(0, 1) = " + left,
                         "evening(1) = 1", "person(0, 2) = " + left, "kitchen(1, 2) = 1"));
             }
@@ -283,7 +285,7 @@ final class LaneBounds {
         for (int kind = 0; kind < 5; kind++) {
             for (int grief = 0; grief < BEARS[kind]; grief++) {
                 int more = grief + GROWS[kind];
-                runs.play("2: to whom it did not come on grief is more by how by kind it grows", List.of(
+                runs.play("An evening: to whom it did not come on grief is more by how by kind it grows", List.of(
                         "tell open 4;open 4;" + WORDS[kind] + " 0 " + grief, "behind(0, 1) = " + more,
                         "evening(1) = 1", "person(0, 2) = " + more, "count(6) = 0"));
             }
@@ -291,13 +293,13 @@ final class LaneBounds {
     }
 
     private void rising() {
-        runs.run("2: these, rising, go", """
+        runs.run("An evening: these, rising, go", """
             tell open 0;open 1;open 1;man 2 40;wife 0 6;wife 0 40
             where(0, 0) = 1
             where(1, 0) = 2
             where(2, 0) = 7
             """);
-        runs.run("2: to whom it does not come on takes no room", """
+        runs.run("An evening: to whom it does not come on takes no room", """
             tell open 0;open 1;wife 0 5;wife 0 6;wife 0 7
             where(0, 0) = NONE
             where(1, 0) = 1
@@ -325,13 +327,13 @@ final class LaneBounds {
             for (int p = 0; p < 6; p++) {
                 lines.add("where(" + p + ", 0) = " + order.get(p));
             }
-            runs.play("2: to the nearest kitchen; of two as near the lesser number", lines);
+            runs.play("An evening: to the nearest kitchen; of two as near the lesser number", lines);
         }
-        runs.run("2: a nearer one of a greater number", """
+        runs.run("An evening: a nearer one of a greater number", """
             tell open 1;shut 1;open 1;open 1;wife 2 6
             where(0, 0) = 3
             """);
-        runs.run("2: that is open", """
+        runs.run("An evening: that is open", """
             tell shut 4;shut 4;open 0;shut 4;open 1;wife 2 6;wife 2 6
             where(0, 0) = 4
             where(1, 0) = 7
@@ -342,14 +344,14 @@ final class LaneBounds {
     }
 
     private void notTheirHome() {
-        runs.run("2: not their home, though it is open and has room", """
+        runs.run("An evening: not their home, though it is open and has room", """
             tell open 4;hard 0 40
             where(0, 0) = 7
             field(0) = 0
             tell open 4
             where(0, 0) = 1
             """);
-        runs.run("2: another may weep there", """
+        runs.run("An evening: another may weep there", """
             tell open 1;shut 1;wife 0 6;wife 1 6
             where(0, 0) = 7
             where(1, 0) = 0
@@ -361,10 +363,10 @@ final class LaneBounds {
             for (int off = 1; off <= 6; off++) {
                 int there = off <= GOES[kind] ? off : 7;
                 String text = "tell shut 0" + ";shut 4".repeat(off - 1) + ";open 4;" + WORDS[kind];
-                runs.play("2: no farther than by kind one goes", List.of(text + " 0 40", "where(0, 0) = " + there,
-                        "funeral(NONE) = " + (there == 7 ? 1 : 0)));
+                runs.play("An evening: no farther than by kind one goes", List.of(text + " 0 40",
+                        "where(0, 0) = " + there, "funeral(NONE) = " + (there == 7 ? 1 : 0)));
                 String back = "tell open 4" + ";shut 4".repeat(off) + ";" + WORDS[kind] + " " + off + " 40";
-                runs.play("2: no farther than by kind one goes", List.of(back,
+                runs.play("An evening: no farther than by kind one goes", List.of(back,
                         "where(0, 0) = " + (there == 7 ? 7 : 0)));
             }
         }
@@ -373,30 +375,30 @@ final class LaneBounds {
     private void notOfOneFallenOut() {
         for (int other = 1; other <= 5; other++) {
             String text = "tell open 4;open 4;wife 0 6" + ";hard 0 0".repeat(other - 1) + ";hard 1 0;fell 0 " + other;
-            runs.play("2: not the home of one with whom they have fallen out", List.of(text, "where(0, 0) = 7",
+            runs.play("An evening: not the home of one with whom they have fallen out", List.of(text, "where(0, 0) = 7",
                     "peace(" + other + ", 0) = 0", "where(0, 0) = 1", "undo() = 0", "where(0, 0) = 7"));
         }
-        runs.run("2: fallen out, either way", """
+        runs.run("An evening: fallen out, either way", """
             tell open 4;open 4;wife 0 6;wife 1 6;fell 1 0
             where(0, 0) = 7
             where(1, 0) = 7
             """);
-        runs.run("2: the next nearest, if not there", """
+        runs.run("An evening: the next nearest, if not there", """
             tell open 4;open 4;open 4;wife 1 6;wife 0 0;fell 0 1
             where(0, 0) = 2
             """);
-        runs.run("2: one of a kitchen is enough, not one of another", """
+        runs.run("An evening: one of a kitchen is enough, not one of another", """
             tell open 4;open 4;open 4;wife 1 6;wife 0 0;wife 0 0;wife 2 0;fell 0 2;fell 1 3
             where(0, 0) = 2
             peace(0, 2) = 0
             where(0, 0) = 0
             """);
-        runs.run("2: fallen out with one of their own home changes nothing", """
+        runs.run("An evening: fallen out with one of their own home changes nothing", """
             tell open 4;open 4;wife 0 6;wife 0 6;fell 0 1
             where(0, 0) = 1
             where(1, 0) = 1
             """);
-        runs.run("2: both may weep in a third one's", """
+        runs.run("An evening: both may weep in a third one's", """
             tell open 0;open 4;open 0;wife 0 6;wife 2 6;fell 0 1
             where(0, 0) = 1
             where(1, 0) = 1
@@ -413,14 +415,14 @@ final class LaneBounds {
             }
             lines.addAll(List.of("evening(1) = 1", "kitchen(1, 2) = " + room, "evening(1) = 2",
                     "kitchen(1, 2) = " + 2 * room, "kitchen(0, 2) = 0"));
-            runs.play("2: has room for one more than went there this evening; luck of it is 1 more", lines);
+            runs.play("An evening: has room for one more than went there this evening; luck of it is 1 more", lines);
         }
     }
 
     private void field() {
         for (int kind = 0; kind < 5; kind++) {
             int b = BEARS[kind];
-            runs.play("2: if there is none, to the field: grief is 1 less", List.of(
+            runs.play("An evening: if there is none, to the field: grief is 1 less", List.of(
                     "tell open 4;" + WORDS[kind] + " 0 " + b + ";" + WORDS[kind] + " 0 40", "where(0, 0) = 7",
                     "where(1, 0) = 7", "evening(1) = 1", "person(0, 2) = " + (b - 1), "person(1, 2) = 39",
                     "count(6) = 0", "evening(1) = 2", "person(0, 2) = " + (b - 1 + GROWS[kind]), "person(1, 2) = 38"));
@@ -428,7 +430,7 @@ final class LaneBounds {
     }
 
     private void nextEvening() {
-        runs.run("2: then it is the next evening", """
+        runs.run("An evening: then it is the next evening", """
             tell open 4;open 4;wife 0 6;man 1 11
             count(2) = 0
             evening(1) = 1

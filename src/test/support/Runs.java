@@ -25,6 +25,7 @@ final class Runs {
     private static final Pattern CALL = Pattern.compile("(\\w+)\\(([^)]*)\\)(?: = (\\S+))?");
 
     private final Map<String, Set<String>> refusals = new TreeMap<>();
+    private final Set<String> promises = new TreeSet<>();
     private int wrong = 0;
     private int made = 0;
 
@@ -65,6 +66,7 @@ final class Runs {
     }
 
     void play(String sentence, List<String> lines) {
+        promises.addAll(List.of(sentence.replaceFirst(":.*", "").split(", ")));
         Played x = new Played();
         for (int i = 0; i < lines.size(); i++) {
             String line = lines.get(i);
@@ -136,6 +138,10 @@ final class Runs {
         for (String way : ways) {
             check(had.contains(way), "promise of " + name, "no run has the answer " + way, 0, way);
         }
+    }
+
+    void mustHaveRunsFor(int promise) {
+        check(promises.contains("" + promise), "promise " + promise, "no run is for it", 0, "a run");
     }
 
     int wrong() {
